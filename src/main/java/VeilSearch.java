@@ -374,10 +374,10 @@ public final class VeilSearch {
             return groupsOf[token] != before;
         }
 
-        /** Each round but the last brings a new group, so there are no more rounds than groups, and one. */
+        /** A round that brings no new group is the last that matters, so as many rounds as groups are enough. */
         int tokensOf(int user) {
             int tokens = 1 << user;
-            for (int round = 0; round <= GROUPS; round++) {
+            for (int round = 0; round < GROUPS; round++) {
                 for (int token = 0; token < TOKENS; token++) {
                     if ((tokens >>> token & 1) != 0) {
                         tokens |= groupsOf[token];
@@ -517,7 +517,9 @@ public final class VeilSearch {
                 if (open[i] && (sorts[i] == MUST && !has || sorts[i] == NOT && has)) {
                     return false;
                 }
-                scored |= open[i] && sorts[i] == SCORES && has;
+                if (open[i] && sorts[i] == SCORES && has) {
+                    scored = true;
+                }
             }
             return scored && !veiledMust;
         }

@@ -8,6 +8,7 @@ public final class FiltersTest {
         droppedForRights(run);
         keptForTheSameRights(run);
         droppedForSegments(run);
+        madeByTheSnapshot(run);
         notForValues(run);
         run.end();
     }
@@ -124,6 +125,33 @@ public final class FiltersTest {
             search(4, 1) 0
             search(5, 1) 0
             """ + counts(6, 1, 5) + "search(0, 1) 0\n" + counts(6, 2, 5) + "search(1, 1) 0\n" + counts(7, 2, 5));
+    }
+
+    private static void madeByTheSnapshot(Run run) {
+        run.check("14: a filter is made by the snapshot's members", """
+            rule(8, true) true
+            weigh(0, 0, 1.0) 16
+            add(-1) 0
+            flush() 1
+            clause(0, 0, 0, 1.0) 1
+            refresh() 1
+            member(0, 8, true) true
+            search(0, 1) 0
+            refresh() 1
+            member(0, 8, false) true
+            search(0, 1) 1
+            refresh() 1
+            search(0, 1) 0
+            """);
+        run.check("14: and by its segments", segments(0, 3) + """
+            clause(0, 0, 0, 1.0) 1
+            refresh() 3
+            remove(0) -
+            remove(1) -
+            merge() 2
+            search(0, 8) 3
+            hit(2) 2
+            """);
     }
 
     private static void notForValues(Run run) {

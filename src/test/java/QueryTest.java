@@ -10,6 +10,7 @@ public final class QueryTest {
         orderOfAdding(run);
         floats(run);
         hitsInOrder(run);
+        moreThanEight(run);
         wrongSearches(run);
         hitsStay(run);
         run.end();
@@ -124,6 +125,62 @@ public final class QueryTest {
             search(0, 8) 1
             clause(2, 2, 0, 1.0) 4
             search(0, 8) 0
+            """);
+        run.check("14: a clause keeps its sort where others come before it", THREE + """
+            clause(2, 2, 0, 1.0) 1
+            clause(0, 1, 0, 1.0) 2
+            clause(1, 0, 0, 1.0) 3
+            search(0, 8) 1
+            hit(0) 0
+            score(0) 1.0
+            clear() 3
+            clause(1, 2, 0, 1.0) 1
+            clause(2, 0, 0, 1.0) 2
+            clause(0, 1, 0, 1.0) 3
+            search(0, 8) 1
+            hit(0) 1
+            score(0) 2.0
+            """);
+        run.check("14: six clauses, and none that was cleared", THREE + """
+            clause(0, 0, 0, 1.0) 1
+            clause(0, 1, 0, 1.0) 2
+            clause(0, 2, 0, 1.0) 3
+            clause(0, 2, 0, 1.0) 4
+            clause(0, 1, 0, 1.0) 5
+            clause(0, 0, 0, 1.0) 6
+            search(0, 8) 3
+            score(0) 24.0
+            hit(1) 1
+            score(1) 8.0
+            score(2) 4.0
+            clear() 6
+            clause(0, 0, 0, 1.0) 1
+            search(0, 8) 2
+            score(0) 4.0
+            score(1) 1.0
+            """);
+        run.check("14: the least code is a code, and a weight that is cut to 0 is none", """
+            rule(0, true) true
+            weigh(0, 0, 0.03125) 1
+            weigh(0, 1, 0.03125) 1
+            add(-1) 0
+            rule(0, true) true
+            weigh(0, 0, 0.03125) 1
+            weigh(0, 1, 0.03) 0
+            add(-1) 1
+            flush() 2
+            refresh() 2
+            clause(0, 0, 0, 1.0) 1
+            search(0, 8) 2
+            score(0) 0.0625
+            clause(1, 1, 0, 1.0) 2
+            search(0, 8) 1
+            hit(0) 0
+            clear() 2
+            clause(0, 0, 0, 1.0) 1
+            clause(2, 1, 0, 1.0) 2
+            search(0, 8) 1
+            hit(0) 1
             """);
         run.check("14: not the buffer, not removed ones, not those that may not be read", THREE + """
             clause(0, 1, 0, 1.0) 1
@@ -341,6 +398,24 @@ public final class QueryTest {
             search(0, 2) 2
             hit(1) 3
             score(2) throws.IndexOutOfBoundsException
+            """);
+    }
+
+    private static void moreThanEight(Run run) {
+        StringBuilder ten = new StringBuilder();
+        for (int id = 0; id < 10; id++) {
+            ten.append("rule(0, true) true\nweigh(0, 0, ").append(id + 1).append(") ").append(16 * id + 16).append("\nadd(-1) ").append(id).append('\n');
+        }
+        run.check("14: no more than 8", ten + """
+            flush() 10
+            refresh() 10
+            clause(0, 0, 0, 1.0) 1
+            search(0, 8) 8
+            hit(0) 9
+            hit(7) 2
+            score(7) 3.0
+            hit(8) throws.IndexOutOfBoundsException
+            count(5) 10
             """);
     }
 
