@@ -1,11 +1,43 @@
 import java.lang.reflect.InvocationTargetException;
 import java.lang.reflect.Method;
+import java.util.Arrays;
 
 /** Runs of calls that are written as text, a call and its answer a line: "weigh(0, 1, 2.5) 40", "remove(9) throws.NoSuchElementException". */
 final class Run {
     static final String NOTHING = "-";
+    private static final int MOST_CALLS = 512;
+    private String test = "";
+    private int tests = 0;
     private int rows = 0;
     private int wrong = 0;
+
+    /** Runs each static method of a class that takes a Run, so that none is forgotten; it is named in what is printed. */
+    static void all(Class<?> tests) {
+        Run run = new Run();
+        for (Method method : tests.getDeclaredMethods()) {
+            if (Arrays.equals(method.getParameterTypes(), new Class<?>[] {Run.class})) {
+                run.one(tests.getSimpleName() + "." + method.getName(), method);
+            }
+        }
+        System.out.print(run.tests + " tests, ");
+        run.end();
+    }
+
+    private void one(String name, Method method) {
+        test = name;
+        tests++;
+        int before = rows;
+        try {
+            method.invoke(null, this);
+        } catch (ReflectiveOperationException e) {
+            throw new AssertionError(name, e);
+        }
+        due("whether " + name + " checks something", "" + (rows > before), "true");
+    }
+
+    void check(String calls) {
+        check(test, calls);
+    }
 
     /** Makes the calls on a new object; each answer must be the one behind its call ("-" for a call without one). */
     void check(String title, String calls) {
@@ -21,6 +53,7 @@ final class Run {
             String got = answer(search, call);
             due(title + ", row " + row + ": " + call, got, line.substring(end).trim());
         }
+        due("whether " + title + " has no more calls than are promised", "" + (row <= MOST_CALLS), "true");
     }
 
     void due(String what, String got, String want) {
