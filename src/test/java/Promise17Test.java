@@ -64,7 +64,8 @@ public final class Promise17Test {
     }
 
     static void whoMayReadIsOfTheSnapshot(Run run) {
-        run.check("rule(8, true) true\nadd(-1) 0\n" + SEEN + "member(0, 8, true) true\nvalue(0, 0, 0)" + Calls.GONE + "refresh() 1\nvalue(0, 0, 0) 0\nmember(0, 8, false) true\nvalue(0, 0, 0) 0\nrefresh() 1\nvalue(0, 0, 0)" + Calls.GONE);
+        run.check("rule(8, true) true\nadd(-1) 0\n" + SEEN + "member(0, 8, true) true\nvalue(0, 0, 0)" + Calls.GONE
+            + "refresh() 1\nvalue(0, 0, 0) 0\nmember(0, 8, false) true\nvalue(0, 0, 0) 0\nrefresh() 1\nvalue(0, 0, 0)" + Calls.GONE);
     }
 
     static void aClearanceBelowTheLevelDoesNotOpenTheField(Run run) {

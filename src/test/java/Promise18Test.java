@@ -62,7 +62,8 @@ public final class Promise18Test {
     }
 
     static void filtersThatWereMadeAndUsedSoFar(Run run) {
-        run.check("count(6) 0\ncount(7) 0\n" + Calls.segments(0, 1) + "refresh() 1\nsearch(0, 1) 0\ncount(6) 1\ncount(7) 0\nsearch(0, 1) 0\ncount(6) 1\ncount(7) 1\nmember(0, 8, true) true\nrefresh() 1\ncount(6) 1\ncount(7) 1\nsearch(0, 1) 0\ncount(6) 2\ncount(7) 1\n");
+        run.check("count(6) 0\ncount(7) 0\n" + Calls.segments(0, 1) + "refresh() 1\nsearch(0, 1) 0\ncount(6) 1\ncount(7) 0\nsearch(0, 1) 0\ncount(6) 1\ncount(7) 1\n"
+            + "member(0, 8, true) true\nrefresh() 1\ncount(6) 1\ncount(7) 1\nsearch(0, 1) 0\ncount(6) 2\ncount(7) 1\n");
     }
 
     static void keptFiltersFrom0To5(Run run) {
