@@ -4,16 +4,7 @@ public final class BlocksTest {
     private int ids = 0;
 
     public static void main(String[] args) {
-        Run run = new Run();
-        sizes(run);
-        boundsAreAbove(run);
-        boundsOfAllDocuments(run);
-        boundsOfTerms(run);
-        boundsOfOpenFields(run);
-        boundsAsFloats(run);
-        untilThereAreHits(run);
-        segmentsInOrder(run);
-        run.end();
+        Run.all(BlocksTest.class);
     }
 
     /** Documents for user 0 that have just term 0 in field 0, of these weights. */
@@ -42,7 +33,7 @@ public final class BlocksTest {
         run.check(title, calls + rest);
     }
 
-    private static void sizes(Run run) {
+    static void sizes(Run run) {
         for (int n = 1; n <= 40; n++) {
             BlocksTest test = new BlocksTest();
             for (int i = 0; i < n; i++) {
@@ -52,7 +43,7 @@ public final class BlocksTest {
         }
     }
 
-    private static void boundsAreAbove(Run run) {
+    static void boundsAreAbove(Run run) {
         new BlocksTest().documents(3, 2, 1, 1, 3, 3, 3, 3, 2, 2, 2, 2.5, 4, 1, 1, 1).then("flush() 16\nrefresh() 16").check(run, "a bound must be above the last hit's score", """
             clause(0, 0, 0, 1.0) 1
             search(0, 1) 1
@@ -74,7 +65,7 @@ public final class BlocksTest {
             """);
     }
 
-    private static void boundsOfAllDocuments(Run run) {
+    static void boundsOfAllDocuments(Run run) {
         BlocksTest test = new BlocksTest().documents(3, 3, 3, 3, 1, 1, 9, 1, 1, 2, 1, 1);
         test.document("rule(1, true) true", "weigh(0, 0, 8.0) 128").documents(1);
         test.then("flush() 14\nremove(6) -\nrefresh() 13").check(run, "removed documents and those that may not be read are in bounds", """
@@ -92,7 +83,7 @@ public final class BlocksTest {
             """);
     }
 
-    private static void boundsOfTerms(Run run) {
+    static void boundsOfTerms(Run run) {
         BlocksTest test = new BlocksTest().documents(3, 3, 3, 3);
         test.document("rule(0, true) true", "weigh(0, 0, 2.0) 32").document("rule(0, true) true", "weigh(1, 5, 2.0) 32");
         test.then("flush() 6\nrefresh() 6").check(run, "a bound takes the greatest code of each clause, MUST and NOT aside", """
@@ -116,7 +107,7 @@ public final class BlocksTest {
             """);
     }
 
-    private static void boundsOfOpenFields(Run run) {
+    static void boundsOfOpenFields(Run run) {
         BlocksTest test = new BlocksTest().documents(3, 3, 3, 3);
         test.document("rule(0, true) true", "weigh(0, 0, 2.0) 32", "weigh(1, 5, 9.0) 144");
         test.then("flush() 5\nlevel(0, 1, 1) 0\nrefresh() 5").check(run, "a clause that is left out is in no bound", """
@@ -134,7 +125,7 @@ public final class BlocksTest {
             """);
     }
 
-    private static void boundsAsFloats(Run run) {
+    static void boundsAsFloats(Run run) {
         BlocksTest test = new BlocksTest();
         test.document("rule(0, true) true", "weigh(0, 0, 16.0) 255").documents(1, 1, 1);
         test.document("rule(0, true) true", "weigh(0, 0, 16.0) 255", "weigh(0, 1, 1.0) 16", "weigh(0, 2, 1.0) 16");
@@ -149,7 +140,7 @@ public final class BlocksTest {
             """);
     }
 
-    private static void untilThereAreHits(Run run) {
+    static void untilThereAreHits(Run run) {
         BlocksTest test = new BlocksTest().documents(5, 1, 1, 1);
         for (int i = 0; i < 4; i++) {
             test.document("rule(0, true) true");
@@ -173,7 +164,7 @@ public final class BlocksTest {
             """);
     }
 
-    private static void segmentsInOrder(Run run) {
+    static void segmentsInOrder(Run run) {
         BlocksTest test = new BlocksTest().documents(1, 1).then("flush() 2").documents(2, 1).then("flush() 2").documents(2, 3).then("flush() 2");
         test.then("refresh() 6").check(run, "segment by segment as they came, each with blocks of its own", """
             clause(0, 0, 0, 1.0) 1

@@ -1,19 +1,10 @@
 /** Promises 4 to 7: THE DRAFT and how it becomes a document. */
 public final class DraftTest {
     public static void main(String[] args) {
-        Run run = new Run();
-        codes(run);
-        wrongWeights(run);
-        latestCode(run);
-        values(run);
-        rules(run);
-        parents(run);
-        draftAnew(run);
-        fortyIds(run);
-        run.end();
+        Run.all(DraftTest.class);
     }
 
-    private static void codes(Run run) {
+    static void codes(Run run) {
         run.check("4: codes", """
             weigh(0, 0, 0.0) 0
             weigh(0, 0, -0.0) 0
@@ -42,7 +33,7 @@ public final class DraftTest {
             """);
     }
 
-    private static void wrongWeights(Run run) {
+    static void wrongWeights(Run run) {
         run.check("4: wrong numbers", """
             weigh(-1, 0, 1.0) throws.IllegalArgumentException
             weigh(3, 0, 1.0) throws.IllegalArgumentException
@@ -72,7 +63,7 @@ public final class DraftTest {
             """);
     }
 
-    private static void latestCode(Run run) {
+    static void latestCode(Run run) {
         run.check("4: the latest weight counts, each term and field for itself", """
             rule(0, true) true
             weigh(0, 0, 2.0) 32
@@ -102,7 +93,7 @@ public final class DraftTest {
             """);
     }
 
-    private static void values(Run run) {
+    static void values(Run run) {
         run.check("5: what it was", """
             put(0, 7) 0
             put(0, -2147483648) 7
@@ -126,7 +117,7 @@ public final class DraftTest {
             """);
     }
 
-    private static void rules(Run run) {
+    static void rules(Run run) {
         run.check("6: whether it changes something", """
             rule(0, true) true
             rule(0, true) false
@@ -160,7 +151,7 @@ public final class DraftTest {
             """);
     }
 
-    private static void parents(Run run) {
+    static void parents(Run run) {
         run.check("7: parents", """
             add(-2) throws.IllegalArgumentException
             add(0) throws.IllegalArgumentException
@@ -233,7 +224,7 @@ public final class DraftTest {
             """);
     }
 
-    private static void draftAnew(Run run) {
+    static void draftAnew(Run run) {
         run.check("7: the draft is empty behind add, not behind one that throws", """
             rule(0, true) true
             put(0, 4) 0
@@ -255,7 +246,7 @@ public final class DraftTest {
             """);
     }
 
-    private static void fortyIds(Run run) {
+    static void fortyIds(Run run) {
         StringBuilder calls = new StringBuilder();
         for (int id = 0; id < 40; id++) {
             calls.append("rule(5, true) true\nput(1, ").append(id).append(") 0\nadd(").append(id - 1).append(") ").append(id).append('\n');

@@ -1,16 +1,7 @@
 /** Promises 11, 14 and 18 (6 to 8): filters that are made, kept, used and dropped. */
 public final class FiltersTest {
     public static void main(String[] args) {
-        Run run = new Run();
-        madeAndUsed(run);
-        theLongestAgoGoes(run);
-        sixSegments(run);
-        droppedForRights(run);
-        keptForTheSameRights(run);
-        droppedForSegments(run);
-        madeByTheSnapshot(run);
-        notForValues(run);
-        run.end();
+        Run.all(FiltersTest.class);
     }
 
     private static String segments(int from, int end) {
@@ -25,10 +16,12 @@ public final class FiltersTest {
         return "count(6) " + made + "\ncount(7) " + used + "\ncount(8) " + kept + "\n";
     }
 
-    private static void madeAndUsed(Run run) {
-        run.check("18: none without segments", "search(0, 1) 0\n" + counts(0, 0, 0) + segments(0, 1) + "search(0, 1) 0\n" + counts(0, 0, 0));
+    static void madeAndUsed(Run run) {
+        run.check("18: none without segments", "search(0, 1) 0\n" + counts(0, 0, 0) + segments(0, 1) + "search(0, 1) 0\n"
+            + counts(0, 0, 0));
         run.check("18: one for each segment and user", segments(0, 2) + "refresh() 2\nsearch(0, 1) 0\n" + counts(2, 0, 2)
-            + "search(0, 1) 0\n" + counts(2, 2, 2) + "search(1, 1) 0\n" + counts(4, 2, 4) + "search(0, 8) 0\nsearch(1, 8) 0\n" + counts(4, 6, 4));
+            + "search(0, 1) 0\n" + counts(2, 2, 2) + "search(1, 1) 0\n" + counts(4, 2, 4) + "search(0, 8) 0\nsearch(1, 8) 0\n"
+            + counts(4, 6, 4));
         run.check("18: also if no block is looked at or nothing can be found", segments(0, 2) + """
             refresh() 2
             clause(0, 0, 0, 1.0) 1
@@ -40,10 +33,11 @@ public final class FiltersTest {
             refresh() 2
             search(0, 1) 0
             """ + counts(4, 0, 2));
-        run.check("14: a search that throws uses none", segments(0, 1) + "refresh() 1\nsearch(0, 9) throws.IllegalArgumentException\n" + counts(0, 0, 0));
+        run.check("14: a search that throws uses none", segments(0, 1) + "refresh() 1\nsearch(0, 9) throws.IllegalArgumentException\n"
+            + counts(0, 0, 0));
     }
 
-    private static void theLongestAgoGoes(Run run) {
+    static void theLongestAgoGoes(Run run) {
         run.check("18: the one that was used the longest ago goes", segments(0, 1) + """
             refresh() 1
             search(0, 1) 0
@@ -58,7 +52,7 @@ public final class FiltersTest {
             + "search(2, 1) 0\n" + counts(9, 4, 5) + "search(5, 1) 0\n" + counts(10, 4, 5));
     }
 
-    private static void sixSegments(Run run) {
+    static void sixSegments(Run run) {
         run.check("18: of 6 segments the filters push each other out", segments(0, 6) + """
             refresh() 6
             clause(0, 0, 0, 1.0) 1
@@ -68,7 +62,7 @@ public final class FiltersTest {
             + "search(1, 8) 0\n" + counts(6, 3, 5) + "search(0, 8) 0\n" + counts(9, 3, 5) + "search(1, 8) 0\n" + counts(12, 3, 5));
     }
 
-    private static void droppedForRights(Run run) {
+    static void droppedForRights(Run run) {
         String kept = segments(0, 2) + "refresh() 2\nsearch(0, 1) 0\n" + counts(2, 0, 2);
         String[] changes = {"member(9, 8, true) true", "member(7, 15, true) true", "level(0, 2, 1) 0", "level(0, 0, 3) 0", "level(1, 7, 1) 0", "level(1, 0, 3) 0"};
         for (String change : changes) {
@@ -83,7 +77,7 @@ public final class FiltersTest {
             """ + counts(1, 0, 0));
     }
 
-    private static void keptForTheSameRights(Run run) {
+    static void keptForTheSameRights(Run run) {
         run.check("11: what is the same again drops none", segments(0, 2) + """
             refresh() 2
             search(0, 1) 0
@@ -106,14 +100,19 @@ public final class FiltersTest {
             """ + counts(2, 2, 2));
     }
 
-    private static void droppedForSegments(Run run) {
-        run.check("11: filters of segments that stay are kept", segments(0, 2) + "refresh() 2\nsearch(0, 1) 0\n" + segments(2, 3) + "refresh() 3\n"
+    static void droppedForSegments(Run run) {
+        run.check("11: filters of segments that stay are kept", segments(0, 2) + "refresh() 2\nsearch(0, 1) 0\n" + segments(2, 3)
+            + "refresh() 3\n"
             + counts(2, 0, 2) + "search(0, 1) 0\n" + counts(3, 2, 3));
-        run.check("11: those of merged ones go with the refresh", segments(0, 2) + "refresh() 2\nsearch(0, 1) 0\nsearch(1, 1) 0\nmerge() 0\n"
-            + counts(4, 0, 4) + "search(0, 1) 0\n" + counts(4, 2, 4) + "refresh() 2\n" + counts(4, 2, 0) + "search(0, 1) 0\n" + counts(5, 2, 1)
+        run.check("11: those of merged ones go with the refresh", segments(0, 2) + "refresh() 2\nsearch(0, 1) 0\nsearch(1, 1) 0\n"
+            + "merge() 0\n"
+            + counts(4, 0, 4) + "search(0, 1) 0\n" + counts(4, 2, 4) + "refresh() 2\n" + counts(4, 2, 0) + "search(0, 1) 0\n"
+            + counts(5, 2, 1)
             + segments(2, 3) + "refresh() 3\nsearch(1, 1) 0\n" + counts(7, 3 - 1, 3) + "search(0, 1) 0\n" + counts(8, 3, 4));
-        run.check("11: a segment that came and went between two refreshes", segments(0, 1) + "refresh() 1\nsearch(0, 1) 0\n" + segments(1, 2)
-            + "remove(0) -\nmerge() 1\nrefresh() 1\n" + counts(1, 0, 0) + "merge() 0\nrefresh() 1\nsearch(0, 1) 0\nrefresh() 1\n" + counts(2, 0, 1));
+        run.check("11: a segment that came and went between two refreshes", segments(0, 1) + "refresh() 1\nsearch(0, 1) 0\n"
+            + segments(1, 2)
+            + "remove(0) -\nmerge() 1\nrefresh() 1\n" + counts(1, 0, 0) + "merge() 0\nrefresh() 1\nsearch(0, 1) 0\nrefresh() 1\n"
+            + counts(2, 0, 1));
         run.check("11: dropping keeps the order of use", segments(0, 1) + """
             refresh() 1
             search(0, 1) 0
@@ -127,7 +126,7 @@ public final class FiltersTest {
             """ + counts(6, 1, 5) + "search(0, 1) 0\n" + counts(6, 2, 5) + "search(1, 1) 0\n" + counts(7, 2, 5));
     }
 
-    private static void madeByTheSnapshot(Run run) {
+    static void madeByTheSnapshot(Run run) {
         run.check("14: a filter is made by the snapshot's members", """
             rule(8, true) true
             weigh(0, 0, 1.0) 16
@@ -154,8 +153,9 @@ public final class FiltersTest {
             """);
     }
 
-    private static void notForValues(Run run) {
-        run.check("17: value uses no filter", segments(0, 1) + "refresh() 1\nvalue(0, 0, 0) 0\nvalue(1, 0, 0) throws.NoSuchElementException\n" + counts(0, 0, 0)
+    static void notForValues(Run run) {
+        run.check("17: value uses no filter", segments(0, 1) + "refresh() 1\nvalue(0, 0, 0) 0\n"
+            + "value(1, 0, 0) throws.NoSuchElementException\n" + counts(0, 0, 0)
             + "search(0, 1) 0\nvalue(0, 0, 0) 0\n" + counts(1, 0, 1));
     }
 }

@@ -23,7 +23,8 @@ public final class ModelTest {
             wrong += new ModelTest(run).differs(run, answers) ? 1 : 0;
         }
         boolean varied = answers.size() >= 50 && answers.values().stream().allMatch(n -> n >= 20);
-        System.out.println(wrong == 0 && varied ? RUNS + " runs answer alike" : "a run differs, or some kind of answer is too rare: " + answers);
+        System.out.println(wrong == 0 && varied ? RUNS + " runs answer alike" : "a run differs, or some kind of answer is too rare: "
+            + answers);
         System.exit(wrong == 0 && varied ? 0 : 1);
     }
 
@@ -108,7 +109,8 @@ public final class ModelTest {
             return "search(" + number(0, users) + ", " + number(1, 9) + ")";
         }
         if (roll < 72) {
-            return oneIn(6) ? "clear()" : "clause(" + (oneIn(4) ? number(0, 3) : 0) + ", " + number(0, terms) + ", " + number(0, 3) + ", " + weight() + ")";
+            return oneIn(6) ? "clear()" : "clause(" + (oneIn(4) ? number(0, 3) : 0) + ", " + number(0, terms) + ", " + number(0, 3) + ", "
+                + weight() + ")";
         }
         return rarerCall(roll);
     }
@@ -121,13 +123,15 @@ public final class ModelTest {
             return "refresh()";
         }
         if (roll < 81) {
-            return oneIn(3) ? "member(" + number(0, 8) + ", 8, true)" : "member(" + number(0, 16) + ", " + number(8, 16) + ", " + !oneIn(3) + ")";
+            return oneIn(3) ? "member(" + number(0, 8) + ", 8, true)" : "member(" + number(0, 16) + ", " + number(8, 16) + ", " + !oneIn(3)
+                + ")";
         }
         if (roll < 82) {
             return oneIn(3) ? "merge()" : "remove(" + number(0, 40) + ")";
         }
         if (roll < 83) {
-            return oneIn(2) ? "level(1, " + number(0, 8) + ", " + number(0, 4) + ")" : "level(" + number(0, 2) + ", " + number(0, 3) + ", " + below(2) + ")";
+            return oneIn(2) ? "level(1, " + number(0, 8) + ", " + number(0, 4) + ")" : "level(" + number(0, 2) + ", " + number(0, 3) + ", "
+                + below(2) + ")";
         }
         if (roll < 86) {
             return "put(" + number(0, 3) + ", " + (below(2000) - 1000) + ")";

@@ -83,10 +83,12 @@ public final class Promise01Test {
     static void objectsShareNothing(Run run) {
         VeilSearch first = new VeilSearch();
         VeilSearch other = new VeilSearch();
-        for (String call : (Calls.documents(0, 2) + "flush() 2\nmember(0, 8, true) true\nlevel(0, 1, 2) 0\nrefresh() 2\nclause(0, 0, 0, 1.0) 1\nsearch(0, 8) 2\nput(0, 7) 0").split("\n")) {
+        for (String call : (Calls.documents(0, 2) + "flush() 2\nmember(0, 8, true) true\nlevel(0, 1, 2) 0\nrefresh() 2\n"
+            + "clause(0, 0, 0, 1.0) 1\nsearch(0, 8) 2\nput(0, 7) 0").split("\n")) {
             if (!call.isBlank()) {
                 int end = call.indexOf(')') + 1;
-                run.due("Promise01Test.objectsShareNothing: " + call, Run.answer(first, call.substring(0, end)), call.substring(end).trim());
+                run.due("Promise01Test.objectsShareNothing: "
+                    + call, Run.answer(first, call.substring(0, end)), call.substring(end).trim());
             }
         }
         String[][] rows = {{"count(0)", "0"}, {"count(10)", "1"}, {"count(20)", "1"}, {"count(6)", "0"}, {"clear()", "0"}, {"level(0, 1, 0)", "0"},

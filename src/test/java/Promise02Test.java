@@ -50,7 +50,8 @@ public final class Promise02Test {
         for (int m = 0; m < 16; m++) {
             for (int g = 8; g < 16; g++) {
                 String pair = "member(" + m + ", " + g + ", ";
-                calls.append(m == g ? "" : pair + "true) true\n" + pair + "true) false\n" + pair + "false) true\n" + pair + "false) false\n");
+                calls.append(m == g ? "" : pair + "true) true\n" + pair + "true) false\n" + pair + "false) true\n" + pair
+                    + "false) false\n");
             }
         }
         run.check(calls.toString());
@@ -85,7 +86,8 @@ public final class Promise02Test {
     }
 
     static void theSmallestCircle(Run run) {
-        run.check("member(8, 9, true) true\nmember(9, 8, true) true\nmember(0, 8, true) true\nmember(1, 9, true) true\ncount(10) 769\ncount(11) 770\n");
+        run.check("member(8, 9, true) true\nmember(9, 8, true) true\nmember(0, 8, true) true\nmember(1, 9, true) true\ncount(10) 769\n"
+            + "count(11) 770\n");
     }
 
     static void membersOfAGroupAreNotTokensOfItsOtherMembers(Run run) {

@@ -50,8 +50,10 @@ public final class Promise03Test {
         int was = 0;
         for (int from = 0; from < 4; from++) {
             for (int to = 0; to < 4; to++) {
-                calls.append("level(0, 2, ").append(from).append(") ").append(was).append("\nlevel(0, 2, ").append(to).append(") ").append(from).append('\n');
-                calls.append("level(1, 7, ").append(from).append(") ").append(was).append("\nlevel(1, 7, ").append(to).append(") ").append(from).append('\n');
+                calls.append("level(0, 2, ").append(from).append(") ").append(was).append("\n"
+                    + "level(0, 2, ").append(to).append(") ").append(from).append('\n');
+                calls.append("level(1, 7, ").append(from).append(") ").append(was).append("\n"
+                    + "level(1, 7, ").append(to).append(") ").append(from).append('\n');
                 was = to;
             }
         }
@@ -59,13 +61,15 @@ public final class Promise03Test {
     }
 
     static void eachFieldAndUserForItself(Run run) {
-        run.check(Calls.each(0, 3, "level(0, #, #) 0") + Calls.each(0, 8, "level(1, #, 3) 0") + Calls.each(0, 3, "level(0, #, 0) #") + Calls.each(0, 8, "level(1, #, 0) 3"));
+        run.check(Calls.each(0, 3, "level(0, #, #) 0") + Calls.each(0, 8, "level(1, #, 3) 0") + Calls.each(0, 3, "level(0, #, 0) #")
+            + Calls.each(0, 8, "level(1, #, 0) 3"));
     }
 
     static void aRefusedCallChangesNothing(Run run) {
         run.check("level(0, 0, 2) 0\nlevel(1, 0, 3) 0\n"
             + "level(0, 0, 4)" + Calls.WRONG + "level(0, 0, -1)" + Calls.WRONG + "level(1, 0, 4)" + Calls.WRONG
-            + "level(2, 0, 1)" + Calls.WRONG + "level(-1, 0, 1)" + Calls.WRONG + "level(0, 3, 1)" + Calls.WRONG + "level(1, 8, 1)" + Calls.WRONG
+            + "level(2, 0, 1)" + Calls.WRONG + "level(-1, 0, 1)" + Calls.WRONG + "level(0, 3, 1)" + Calls.WRONG + "level(1, 8, 1)"
+            + Calls.WRONG
             + "level(0, 0, 0) 2\nlevel(1, 0, 0) 3\n" + Calls.each(1, 3, "level(0, #, 0) 0") + Calls.each(1, 8, "level(1, #, 0) 0"));
     }
 }

@@ -76,13 +76,15 @@ public final class Promise04Test {
     static void aCodeIsAtMost255(Run run) {
         run.check("weigh(0, 0, 15.9375) 255\n");
         run.check("weigh(0, 0, " + (double) Math.nextDown(15.96875f) + ") 255\n");
-        run.check("weigh(0, 0, 15.96875) 255\nweigh(0, 0, 16.0) 255\nweigh(0, 0, 16.5) 255\nweigh(0, 0, 31.96875) 255\nweigh(0, 0, 1000.0) 255\n");
+        run.check("weigh(0, 0, 15.96875) 255\nweigh(0, 0, 16.0) 255\nweigh(0, 0, 16.5) 255\nweigh(0, 0, 31.96875) 255\n"
+            + "weigh(0, 0, 1000.0) 255\n");
     }
 
     static void eachTermOfEachFieldForItself(Run run) {
         StringBuilder calls = new StringBuilder("rule(0, true) true\n");
         for (int place = 0; place < 24; place++) {
-            calls.append("weigh(").append(place / 8).append(", ").append(place % 8).append(", ").append(place + 1).append(".0) ").append(Math.min(255, 16 * place + 16)).append('\n');
+            calls.append("weigh(").append(place / 8).append(", ").append(place % 8).append(", ").append(place
+                + 1).append(".0) ").append(Math.min(255, 16 * place + 16)).append('\n');
         }
         calls.append("add(-1) 0\nflush() 1\nrefresh() 1\n");
         for (int place = 0; place < 24; place++) {
@@ -93,12 +95,15 @@ public final class Promise04Test {
     }
 
     static void aCodeOf0IsNoneAgain(Run run) {
-        run.check("rule(0, true) true\nweigh(0, 0, 5.0) 80\nweigh(0, 0, 0.0) 0\nadd(-1) 0\nflush() 1\nrefresh() 1\nclause(0, 0, 0, 1.0) 1\nsearch(0, 1) 0\n");
+        run.check("rule(0, true) true\nweigh(0, 0, 5.0) 80\nweigh(0, 0, 0.0) 0\nadd(-1) 0\nflush() 1\nrefresh() 1\nclause(0, 0, 0, 1.0) 1\n"
+            + "search(0, 1) 0\n");
     }
 
     static void aRefusedCallChangesNoCode(Run run) {
-        run.check("rule(0, true) true\nweigh(0, 0, 2.0) 32\nweigh(0, 0, " + Math.nextUp(1000.0) + ")" + Calls.WRONG + "weigh(0, 0, -1.0)" + Calls.WRONG
-            + "weigh(0, 0, 1e-31)" + Calls.WRONG + "weigh(0, 8, 1.0)" + Calls.WRONG + "weigh(3, 0, 1.0)" + Calls.WRONG + "weigh(1, -8, 1.0)" + Calls.WRONG
+        run.check("rule(0, true) true\nweigh(0, 0, 2.0) 32\nweigh(0, 0, " + Math.nextUp(1000.0) + ")" + Calls.WRONG + "weigh(0, 0, -1.0)"
+            + Calls.WRONG
+            + "weigh(0, 0, 1e-31)" + Calls.WRONG + "weigh(0, 8, 1.0)" + Calls.WRONG + "weigh(3, 0, 1.0)" + Calls.WRONG + "weigh(1, -8, 1.0)"
+            + Calls.WRONG
             + "add(-1) 0\nflush() 1\nrefresh() 1\nclause(0, 0, 0, 1.0) 1\nclause(0, 0, 1, 1.0) 2\nsearch(0, 1) 1\nscore(0) 2.0\n");
     }
 }

@@ -38,7 +38,8 @@ public final class Promise05Test {
     }
 
     static void aRefusedCallChangesNoValue(Run run) {
-        run.check(Calls.each(0, 3, "put(#, 1#) 0") + "put(-1, 5)" + Calls.WRONG + "put(3, 5)" + Calls.WRONG + Calls.each(0, 3, "put(#, 1) 1#")
+        run.check(Calls.each(0, 3, "put(#, 1#) 0") + "put(-1, 5)" + Calls.WRONG + "put(3, 5)" + Calls.WRONG
+            + Calls.each(0, 3, "put(#, 1) 1#")
             + "add(-1) 0\nput(-1, 5)" + Calls.WRONG + "rule(0, true) true\nadd(-1) 1\n" + Calls.each(0, 3, "put(#, 1) 0")
             + "flush() 2\nrefresh() 2\n" + Calls.each(0, 3, "value(0, 1, #) 0"));
     }

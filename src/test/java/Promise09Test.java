@@ -42,18 +42,22 @@ public final class Promise09Test {
     }
 
     static void theBufferStaysWith6Segments(Run run) {
-        run.check(Calls.segments(0, 6) + Calls.documents(6, 9) + "flush()" + Calls.FULL + "count(1) 3\nremove(7) -\nflush()" + Calls.FULL + "count(1) 2\nmerge() 0\nflush() 2\ncount(2) 2\nrefresh() 8\n");
+        run.check(Calls.segments(0, 6) + Calls.documents(6, 9) + "flush()" + Calls.FULL + "count(1) 3\nremove(7) -\nflush()" + Calls.FULL
+            + "count(1) 2\nmerge() 0\nflush() 2\ncount(2) 2\nrefresh() 8\n");
     }
 
     static void segmentsOfTheSnapshotDoNotCount(Run run) {
-        run.check(Calls.segments(0, 6) + "refresh() 6\nmerge() 0\ncount(3) 6\n" + Calls.segments(6, 11) + "count(2) 6\nadd(-1) 11\nflush()" + Calls.FULL);
+        run.check(Calls.segments(0, 6) + "refresh() 6\nmerge() 0\ncount(3) 6\n" + Calls.segments(6, 11) + "count(2) 6\nadd(-1) 11\nflush()"
+            + Calls.FULL);
     }
 
     static void segmentsWithoutAnyLivingDocumentStillCount(Run run) {
-        run.check(Calls.segments(0, 6) + Calls.each(0, 6, "remove(#) -") + "count(2) 6\nadd(-1) 6\nflush()" + Calls.FULL + "merge() 6\ncount(2) 0\nflush() 1\n");
+        run.check(Calls.segments(0, 6) + Calls.each(0, 6, "remove(#) -") + "count(2) 6\nadd(-1) 6\nflush()" + Calls.FULL + "merge() 6\n"
+            + "count(2) 0\nflush() 1\n");
     }
 
     static void theSnapshotDoesNotKnowItBeforeTheNextRefresh(Run run) {
-        run.check(Calls.documents(0, 1) + "flush() 1\ncount(3) 0\nclause(0, 0, 0, 1.0) 1\nsearch(0, 8) 0\nrefresh() 1\ncount(3) 1\nsearch(0, 8) 1\n");
+        run.check(Calls.documents(0, 1) + "flush() 1\ncount(3) 0\nclause(0, 0, 0, 1.0) 1\nsearch(0, 8) 0\nrefresh() 1\ncount(3) 1\n"
+            + "search(0, 8) 1\n");
     }
 }

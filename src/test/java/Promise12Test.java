@@ -28,7 +28,8 @@ public final class Promise12Test {
     }
 
     static void theTermStandsBeforeTheField(Run run) {
-        run.check("clause(0, 7, 2, 1.0) 1\nclause(0, 2, 7, 1.0)" + Calls.WRONG + "clause(0, 3, 2, 1.0) 2\nclause(0, 2, 3, 1.0)" + Calls.WRONG);
+        run.check("clause(0, 7, 2, 1.0) 1\nclause(0, 2, 7, 1.0)" + Calls.WRONG + "clause(0, 3, 2, 1.0) 2\nclause(0, 2, 3, 1.0)"
+            + Calls.WRONG);
     }
 
     static void aWeightIsNotBelow0(Run run) {
@@ -68,11 +69,13 @@ public final class Promise12Test {
 
     /** Both are not as said; the arguments are looked at first. */
     static void with6AWrongOneIsStillWrong(Run run) {
-        run.check(SIX + "clause(3, 0, 0, 1.0)" + Calls.WRONG + "clause(0, 8, 0, 1.0)" + Calls.WRONG + "clause(0, 0, 3, 1.0)" + Calls.WRONG + "clause(0, 0, 0, -1.0)" + Calls.WRONG + "clear() 6\n");
+        run.check(SIX + "clause(3, 0, 0, 1.0)" + Calls.WRONG + "clause(0, 8, 0, 1.0)" + Calls.WRONG + "clause(0, 0, 3, 1.0)" + Calls.WRONG
+            + "clause(0, 0, 0, -1.0)" + Calls.WRONG + "clear() 6\n");
     }
 
     static void sixOfEachSortCountTogether(Run run) {
-        run.check("clause(0, 0, 0, 1.0) 1\nclause(1, 0, 0, 1.0) 2\nclause(2, 0, 0, 1.0) 3\nclause(0, 0, 0, 1.0) 4\nclause(1, 0, 0, 1.0) 5\nclause(2, 0, 0, 1.0) 6\nclause(2, 0, 0, 1.0)" + Calls.FULL);
+        run.check("clause(0, 0, 0, 1.0) 1\nclause(1, 0, 0, 1.0) 2\nclause(2, 0, 0, 1.0) 3\nclause(0, 0, 0, 1.0) 4\nclause(1, 0, 0, 1.0) 5\n"
+            + "clause(2, 0, 0, 1.0) 6\nclause(2, 0, 0, 1.0)" + Calls.FULL);
     }
 
     static void sixMoreBehindAClear(Run run) {
@@ -80,11 +83,13 @@ public final class Promise12Test {
     }
 
     static void theSeventhIsNotSearched(Run run) {
-        run.check(Calls.documents(0, 1) + "flush() 1\nrefresh() 1\n" + SIX + "clause(0, 0, 0, 1.0)" + Calls.FULL + "clause(2, 0, 0, 1.0)" + Calls.FULL + "search(0, 1) 1\nscore(0) 6.0\n");
+        run.check(Calls.documents(0, 1) + "flush() 1\nrefresh() 1\n" + SIX + "clause(0, 0, 0, 1.0)" + Calls.FULL + "clause(2, 0, 0, 1.0)"
+            + Calls.FULL + "search(0, 1) 1\nscore(0) 6.0\n");
     }
 
     static void aRefusedCallAddsNone(Run run) {
-        run.check(Calls.documents(0, 1) + "flush() 1\nrefresh() 1\nclause(0, 0, 0, 1.0) 1\nclause(2, 0, 0, 1001.0)" + Calls.WRONG + "clause(2, 0, 0, NaN)" + Calls.WRONG + "clause(3, 0, 0, 1.0)" + Calls.WRONG
+        run.check(Calls.documents(0, 1) + "flush() 1\nrefresh() 1\nclause(0, 0, 0, 1.0) 1\nclause(2, 0, 0, 1001.0)" + Calls.WRONG
+            + "clause(2, 0, 0, NaN)" + Calls.WRONG + "clause(3, 0, 0, 1.0)" + Calls.WRONG
             + "search(0, 1) 1\nscore(0) 1.0\nclear() 1\n");
     }
 

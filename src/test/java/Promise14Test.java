@@ -28,7 +28,8 @@ public final class Promise14Test {
     }
 
     static void aRefusedSearchLeavesTheLatestOne(Run run) {
-        run.check(Calls.documents(0, 2) + "flush() 2\nrefresh() 2\n" + SCORES + "search(0, 8) 2\nsearch(8, 8)" + Calls.WRONG + "search(0, 9)" + Calls.WRONG + "search(0, 0)" + Calls.WRONG
+        run.check(Calls.documents(0, 2) + "flush() 2\nrefresh() 2\n" + SCORES + "search(0, 8) 2\nsearch(8, 8)" + Calls.WRONG
+            + "search(0, 9)" + Calls.WRONG + "search(0, 0)" + Calls.WRONG
             + "hit(1) 1\nscore(1) 1.0\ncount(4) 1\ncount(5) 2\ncount(6) 1\ncount(7) 0\n");
     }
 
@@ -42,7 +43,8 @@ public final class Promise14Test {
     }
 
     static void aQueryWithoutAnyScores(Run run) {
-        run.check(Calls.documents(0, 1) + SEEN + "clause(1, 0, 0, 1.0) 1\nclause(2, 1, 0, 1.0) 2\nsearch(0, 8) 0\ncount(4) 1\ncount(5) 0\n");
+        run.check(Calls.documents(0, 1) + SEEN + "clause(1, 0, 0, 1.0) 1\nclause(2, 1, 0, 1.0) 2\nsearch(0, 8) 0\ncount(4) 1\n"
+            + "count(5) 0\n");
     }
 
     static void theBufferIsNotSearched(Run run) {
@@ -111,16 +113,19 @@ public final class Promise14Test {
     }
 
     static void withAMustOfAFieldThatIsNotOpenBlocksAreStillLookedAt(Run run) {
-        run.check(Calls.documents(0, 5) + "flush() 5\nlevel(0, 1, 1) 0\nrefresh() 5\n" + SCORES + "clause(1, 0, 1, 1.0) 2\nsearch(0, 1) 0\ncount(4) 2\ncount(5) 0\ncount(6) 1\n");
+        run.check(Calls.documents(0, 5) + "flush() 5\nlevel(0, 1, 1) 0\nrefresh() 5\n" + SCORES + "clause(1, 0, 1, 1.0) 2\nsearch(0, 1) 0\n"
+            + "count(4) 2\ncount(5) 0\ncount(6) 1\n");
     }
 
     static void aMustIsVeiledForOneSearchAlone(Run run) {
-        run.check("weigh(1, 0, 1.0) 16\nrule(1, true) true\n" + Calls.documents(0, 1) + "level(0, 1, 1) 0\nlevel(1, 1, 1) 0\n" + SEEN + SCORES + "clause(1, 0, 1, 1.0) 2\nsearch(0, 1) 0\nsearch(1, 1) 1\nsearch(0, 1) 0\n"
+        run.check("weigh(1, 0, 1.0) 16\nrule(1, true) true\n" + Calls.documents(0, 1) + "level(0, 1, 1) 0\nlevel(1, 1, 1) 0\n" + SEEN
+            + SCORES + "clause(1, 0, 1, 1.0) 2\nsearch(0, 1) 0\nsearch(1, 1) 1\nsearch(0, 1) 0\n"
             + "clear() 2\n" + SCORES + "search(0, 1) 1\n");
     }
 
     static void oneOpenMustDoesNotOpenAnother(Run run) {
-        String both = "weigh(1, 0, 1.0) 16\nweigh(2, 0, 1.0) 16\n" + Calls.documents(0, 1) + "flush() 1\nlevel(0, 1, 1) 0\nrefresh() 1\n" + SCORES;
+        String both = "weigh(1, 0, 1.0) 16\nweigh(2, 0, 1.0) 16\n" + Calls.documents(0, 1) + "flush() 1\nlevel(0, 1, 1) 0\nrefresh() 1\n"
+            + SCORES;
         run.check(both + "clause(1, 0, 1, 1.0) 2\nclause(1, 0, 2, 1.0) 3\nsearch(0, 1) 0\n");
         run.check(both + "clause(1, 0, 2, 1.0) 2\nclause(1, 0, 1, 1.0) 3\nsearch(0, 1) 0\n");
     }
@@ -129,15 +134,18 @@ public final class Promise14Test {
         for (int k = 1; k <= 8; k++) {
             for (int n = 1; n <= 9; n++) {
                 int size = Math.min(n, k);
-                run.check(Calls.documents(0, n) + "flush() " + n + "\nrefresh() " + n + "\n" + SCORES + "search(0, " + k + ") " + size + "\n"
+                run.check(Calls.documents(0, n) + "flush() " + n + "\nrefresh() " + n + "\n" + SCORES + "search(0, " + k + ") " + size
+                    + "\n"
                     + Calls.each(0, size, "hit(#) #") + "hit(" + size + ")" + Calls.NO_HIT);
             }
         }
     }
 
     static void theLastHitGoesWhereABetterOneComes(Run run) {
-        run.check(Calls.document(0, 1) + Calls.document(1, 3) + Calls.document(2, 2) + Calls.document(3, 4) + "flush() 4\nrefresh() 4\n" + SCORES
-            + "search(0, 1) 1\nhit(0) 3\ncount(5) 4\nsearch(0, 2) 2\nhit(0) 3\nhit(1) 1\nsearch(0, 3) 3\nhit(2) 2\nsearch(0, 4) 4\nhit(3) 0\n");
+        run.check(Calls.document(0, 1) + Calls.document(1, 3) + Calls.document(2, 2) + Calls.document(3, 4) + "flush() 4\nrefresh() 4\n"
+            + SCORES
+            + "search(0, 1) 1\nhit(0) 3\ncount(5) 4\nsearch(0, 2) 2\nhit(0) 3\nhit(1) 1\nsearch(0, 3) 3\nhit(2) 2\nsearch(0, 4) 4\n"
+            + "hit(3) 0\n");
     }
 
     static void withKHitsEachBetterOneComesFirst(Run run) {
@@ -146,22 +154,26 @@ public final class Promise14Test {
             rising.append(Calls.document(id, id + 1));
         }
         for (int k = 1; k <= 8; k++) {
-            run.check(rising + "flush() 12\nrefresh() 12\n" + SCORES + "search(0, " + k + ") " + k + "\nhit(0) 11\nscore(0) 12.0\nhit(" + (k - 1) + ") " + (12 - k) + "\nscore(" + (k - 1) + ") " + (13.0 - k) + "\ncount(5) 12\n");
+            run.check(rising + "flush() 12\nrefresh() 12\n" + SCORES + "search(0, " + k + ") " + k + "\nhit(0) 11\nscore(0) 12.0\nhit("
+                + (k - 1) + ") " + (12 - k) + "\nscore(" + (k - 1) + ") " + (13.0 - k) + "\ncount(5) 12\n");
         }
     }
 
     static void ofEqualScoresTheGreatestIdGoes(Run run) {
-        run.check(Calls.document(0, 1) + Calls.document(1, 1) + Calls.document(2, 2) + Calls.document(3, 1) + "flush() 4\nrefresh() 4\n" + SCORES
+        run.check(Calls.document(0, 1) + Calls.document(1, 1) + Calls.document(2, 2) + Calls.document(3, 1) + "flush() 4\nrefresh() 4\n"
+            + SCORES
             + "search(0, 1) 1\nhit(0) 2\nsearch(0, 2) 2\nhit(0) 2\nhit(1) 0\nsearch(0, 3) 3\nhit(1) 0\nhit(2) 1\n");
     }
 
     static void aFifthDocumentIsInANextBlock(Run run) {
         run.check(Calls.documents(0, 4) + "flush() 4\nrefresh() 4\n" + SCORES + "search(0, 8) 4\ncount(4) 1\n");
-        run.check(Calls.documents(0, 5) + "flush() 5\nrefresh() 5\n" + SCORES + "search(0, 8) 5\ncount(4) 2\nsearch(0, 4) 4\ncount(4) 1\nsearch(0, 5) 5\ncount(4) 2\n");
+        run.check(Calls.documents(0, 5) + "flush() 5\nrefresh() 5\n" + SCORES + "search(0, 8) 5\ncount(4) 2\nsearch(0, 4) 4\ncount(4) 1\n"
+            + "search(0, 5) 5\ncount(4) 2\n");
     }
 
     static void aBlockDoesNotReachIntoTheNextSegment(Run run) {
-        run.check(Calls.documents(0, 3) + "flush() 3\n" + Calls.documents(3, 4) + "flush() 1\nrefresh() 4\n" + SCORES + "search(0, 8) 4\ncount(4) 2\nsearch(0, 3) 3\ncount(4) 1\n");
+        run.check(Calls.documents(0, 3) + "flush() 3\n" + Calls.documents(3, 4) + "flush() 1\nrefresh() 4\n" + SCORES + "search(0, 8) 4\n"
+            + "count(4) 2\nsearch(0, 3) 3\ncount(4) 1\n");
     }
 
     static void aBoundAsTheLastHitsScoreIsNotAbove(Run run) {
@@ -181,23 +193,28 @@ public final class Promise14Test {
     }
 
     static void aBoundTakesEachTermFromAnotherDocument(Run run) {
-        String two = "rule(0, true) true\nweigh(0, 0, 1.0) 16\nadd(-1) 4\nrule(0, true) true\nweigh(2, 7, 1.5) 24\nadd(-1) 5\nflush() 6\nrefresh() 6\n" + SCORES + "clause(0, 7, 2, 1.0) 2\n";
+        String two = "rule(0, true) true\nweigh(0, 0, 1.0) 16\nadd(-1) 4\nrule(0, true) true\nweigh(2, 7, 1.5) 24\nadd(-1) 5\nflush() 6\n"
+            + "refresh() 6\n" + SCORES + "clause(0, 7, 2, 1.0) 2\n";
         String four = Calls.each(0, 4, "rule(0, true) true\nweigh(0, 0, 2.4375) 39\nadd(-1) #");
         run.check(four + two + "search(0, 1) 1\nhit(0) 0\ncount(4) 2\ncount(5) 6\n");
         run.check(four.replace("2.4375) 39", "2.5) 40") + two + "search(0, 1) 1\nhit(0) 0\ncount(4) 1\ncount(5) 4\n");
     }
 
     static void aBoundOf0IsNotAbove0(Run run) {
-        run.check(Calls.documents(0, 5) + "flush() 5\nrefresh() 5\nclause(0, 0, 0, 0.0) 1\nsearch(0, 4) 4\nscore(3) 0.0\ncount(4) 1\nsearch(0, 5) 5\ncount(4) 2\n");
+        run.check(Calls.documents(0, 5) + "flush() 5\nrefresh() 5\nclause(0, 0, 0, 0.0) 1\nsearch(0, 4) 4\nscore(3) 0.0\ncount(4) 1\n"
+            + "search(0, 5) 5\ncount(4) 2\n");
     }
 
     static void withoutKHitsABlockWithABoundOf0IsLookedAt(Run run) {
-        run.check(Calls.documents(0, 4) + Calls.each(4, 8, "rule(0, true) true\nadd(-1) #") + "flush() 8\nrefresh() 8\n" + SCORES + "search(0, 5) 4\ncount(4) 2\nsearch(0, 4) 4\ncount(4) 1\n");
+        run.check(Calls.documents(0, 4) + Calls.each(4, 8, "rule(0, true) true\nadd(-1) #") + "flush() 8\nrefresh() 8\n" + SCORES
+            + "search(0, 5) 4\ncount(4) 2\nsearch(0, 4) 4\ncount(4) 1\n");
     }
 
     static void aBoundHasDocumentsThatAreRemovedOrMayNotBeRead(Run run) {
-        run.check(Calls.documents(0, 4) + Calls.document(4, 2) + "flush() 5\nremove(4) -\nrefresh() 4\n" + SCORES + "search(0, 1) 1\nhit(0) 0\ncount(4) 2\ncount(5) 4\n");
-        run.check(Calls.documents(0, 4) + "rule(1, true) true\nweigh(0, 0, 2.0) 32\nadd(-1) 4\nflush() 5\nrefresh() 5\n" + SCORES + "search(0, 1) 1\nhit(0) 0\ncount(4) 2\ncount(5) 4\n");
+        run.check(Calls.documents(0, 4) + Calls.document(4, 2) + "flush() 5\nremove(4) -\nrefresh() 4\n" + SCORES + "search(0, 1) 1\n"
+            + "hit(0) 0\ncount(4) 2\ncount(5) 4\n");
+        run.check(Calls.documents(0, 4) + "rule(1, true) true\nweigh(0, 0, 2.0) 32\nadd(-1) 4\nflush() 5\nrefresh() 5\n" + SCORES
+            + "search(0, 1) 1\nhit(0) 0\ncount(4) 2\ncount(5) 4\n");
     }
 
     static void theFifthFilterIsTheLastThatPushesNoneOut(Run run) {
@@ -207,19 +224,24 @@ public final class Promise14Test {
 
     static void theFilterThatWasUsedTheLongestAgoGoes(Run run) {
         String five = Calls.documents(0, 1) + SEEN + Calls.each(0, 5, "search(#, 1) 0");
-        run.check(five + "search(5, 1) 0\ncount(8) 5\n" + Calls.each(1, 6, "search(#, 1) 0") + "count(7) 5\nsearch(0, 1) 0\ncount(6) 7\ncount(7) 5\n");
-        run.check(five + "search(0, 1) 0\ncount(7) 1\nsearch(5, 1) 0\nsearch(0, 1) 0\ncount(7) 2\nsearch(1, 1) 0\ncount(6) 7\ncount(7) 2\n");
+        run.check(five + "search(5, 1) 0\ncount(8) 5\n" + Calls.each(1, 6, "search(#, 1) 0") + "count(7) 5\nsearch(0, 1) 0\ncount(6) 7\n"
+            + "count(7) 5\n");
+        run.check(five + "search(0, 1) 0\ncount(7) 1\nsearch(5, 1) 0\nsearch(0, 1) 0\ncount(7) 2\nsearch(1, 1) 0\ncount(6) 7\n"
+            + "count(7) 2\n");
     }
 
     /** Users 0 to 5 read the documents of their own number; what a filter lets through shows whose it is. */
     static void theOtherFiltersStayWhatTheyWere(Run run) {
         String six = Calls.each(0, 6, "rule(#, true) true\nweigh(0, 0, 1.0) 16\nadd(-1) #") + "flush() 6\nrefresh() 6\n" + SCORES;
-        run.check(six + Calls.each(0, 6, "search(#, 8) 1\nhit(0) #") + Calls.each(1, 6, "search(#, 8) 1\nhit(0) #") + "count(6) 6\ncount(7) 5\n"
-            + "search(3, 8) 1\nhit(0) 3\nsearch(1, 8) 1\nhit(0) 1\nsearch(0, 8) 1\nhit(0) 0\nsearch(4, 8) 1\nhit(0) 4\ncount(6) 7\ncount(7) 8\n");
+        run.check(six + Calls.each(0, 6, "search(#, 8) 1\nhit(0) #") + Calls.each(1, 6, "search(#, 8) 1\nhit(0) #") + "count(6) 6\n"
+            + "count(7) 5\n"
+            + "search(3, 8) 1\nhit(0) 3\nsearch(1, 8) 1\nhit(0) 1\nsearch(0, 8) 1\nhit(0) 0\nsearch(4, 8) 1\nhit(0) 4\ncount(6) 7\n"
+            + "count(7) 8\n");
     }
 
     static void aFilterIsMadeAlsoWhereNoBlockIsLookedAt(Run run) {
-        run.check(Calls.document(0, 2) + "flush() 1\n" + Calls.document(1, 1) + "flush() 1\nrefresh() 2\n" + SCORES + "search(0, 1) 1\ncount(4) 1\ncount(6) 2\nsearch(0, 1) 1\ncount(7) 2\n");
+        run.check(Calls.document(0, 2) + "flush() 1\n" + Calls.document(1, 1) + "flush() 1\nrefresh() 2\n" + SCORES + "search(0, 1) 1\n"
+            + "count(4) 1\ncount(6) 2\nsearch(0, 1) 1\ncount(7) 2\n");
     }
 
     /** A document with terms 0 to 5, but for one of them. */

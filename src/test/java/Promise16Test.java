@@ -18,24 +18,28 @@ public final class Promise16Test {
 
     static void iIs0ToTheLastHit(Run run) {
         for (int n = 1; n <= 8; n++) {
-            run.check(Calls.documents(0, n) + "flush() " + n + "\nrefresh() " + n + "\nclause(0, 0, 0, 1.0) 1\nsearch(0, 8) " + n + "\nscore(-1)" + Calls.NO_HIT
+            run.check(Calls.documents(0, n) + "flush() " + n + "\nrefresh() " + n + "\nclause(0, 0, 0, 1.0) 1\nsearch(0, 8) " + n + "\n"
+                + "score(-1)" + Calls.NO_HIT
                 + "score(0) 1.0\nscore(" + (n - 1) + ") 1.0\nscore(" + n + ")" + Calls.NO_HIT);
         }
     }
 
     static void noHitBehindK(Run run) {
         for (int k = 1; k <= 8; k++) {
-            run.check(Calls.documents(0, 9) + "flush() 9\nrefresh() 9\nclause(0, 0, 0, 1.0) 1\nsearch(0, " + k + ") " + k + "\nscore(" + (k - 1) + ") 1.0\nscore(" + k + ")" + Calls.NO_HIT);
+            run.check(Calls.documents(0, 9) + "flush() 9\nrefresh() 9\nclause(0, 0, 0, 1.0) 1\nsearch(0, " + k + ") " + k + "\nscore("
+                + (k - 1) + ") 1.0\nscore(" + k + ")" + Calls.NO_HIT);
         }
     }
 
     static void numbersDoNotWrapAround(Run run) {
-        run.check(Calls.documents(0, 1) + ONE + "clause(0, 0, 0, 1.0) 1\nsearch(0, 8) 1\nscore(2147483647)" + Calls.NO_HIT + "score(-2147483648)" + Calls.NO_HIT
+        run.check(Calls.documents(0, 1) + ONE + "clause(0, 0, 0, 1.0) 1\nsearch(0, 8) 1\nscore(2147483647)" + Calls.NO_HIT
+            + "score(-2147483648)" + Calls.NO_HIT
             + "score(8)" + Calls.NO_HIT + "score(-8)" + Calls.NO_HIT + "score(256)" + Calls.NO_HIT);
     }
 
     static void theLatestSearchAlone(Run run) {
-        run.check(Calls.document(0, 2) + Calls.document(1, 1) + "flush() 2\nrefresh() 2\nclause(0, 0, 0, 1.0) 1\nsearch(0, 8) 2\nscore(1) 1.0\nsearch(0, 1) 1\nscore(0) 2.0\nscore(1)" + Calls.NO_HIT
+        run.check(Calls.document(0, 2) + Calls.document(1, 1) + "flush() 2\nrefresh() 2\nclause(0, 0, 0, 1.0) 1\nsearch(0, 8) 2\n"
+            + "score(1) 1.0\nsearch(0, 1) 1\nscore(0) 2.0\nscore(1)" + Calls.NO_HIT
             + "search(1, 8) 0\nscore(0)" + Calls.NO_HIT);
     }
 
@@ -46,7 +50,8 @@ public final class Promise16Test {
     }
 
     static void theLeastScoreAbove0(Run run) {
-        run.check(Calls.document(0, 0.0625) + ONE + "clause(0, 0, 0, 1e-30) 1\nsearch(0, 1) 1\nscore(0) " + (double) ((float) 1e-30 * (1 / 16f)));
+        run.check(Calls.document(0, 0.0625) + ONE + "clause(0, 0, 0, 1e-30) 1\nsearch(0, 1) 1\nscore(0) "
+            + (double) ((float) 1e-30 * (1 / 16f)));
     }
 
     static void theGreatestScore(Run run) {
@@ -58,11 +63,13 @@ public final class Promise16Test {
     }
 
     static void mustAndNotScoreNothing(Run run) {
-        run.check(Calls.document(0, 1) + ONE + "clause(1, 0, 0, 1000.0) 1\nclause(0, 0, 0, 1.0) 2\nclause(2, 1, 0, 1000.0) 3\nsearch(0, 1) 1\nscore(0) 1.0\n");
+        run.check(Calls.document(0, 1) + ONE + "clause(1, 0, 0, 1000.0) 1\nclause(0, 0, 0, 1.0) 2\nclause(2, 1, 0, 1000.0) 3\n"
+            + "search(0, 1) 1\nscore(0) 1.0\n");
     }
 
     static void aTermWithoutACodeScoresNothing(Run run) {
-        run.check(Calls.document(0, 1) + ONE + "clause(0, 0, 0, 1.0) 1\nclause(0, 1, 0, 1000.0) 2\nclause(0, 0, 1, 1000.0) 3\nsearch(0, 1) 1\nscore(0) 1.0\n");
+        run.check(Calls.document(0, 1) + ONE + "clause(0, 0, 0, 1.0) 1\nclause(0, 1, 0, 1000.0) 2\nclause(0, 0, 1, 1000.0) 3\n"
+            + "search(0, 1) 1\nscore(0) 1.0\n");
     }
 
     static void aWeightIsAFloat(Run run) {
@@ -79,15 +86,20 @@ public final class Promise16Test {
 
     static void thenAsTheyCame(Run run) {
         String calls = "rule(0, true) true\nweigh(0, 0, 1.0) 16\nadd(-1) 0\n" + ONE;
-        run.check(calls + "clause(0, 0, 0, 3e-5) 1\nclause(0, 0, 0, 3e-5) 2\nclause(0, 0, 0, 1000.0) 3\nsearch(0, 1) 1\nscore(0) " + SMALL_FIRST);
-        run.check(calls + "clause(0, 0, 0, 1000.0) 1\nclause(0, 0, 0, 3e-5) 2\nclause(0, 0, 0, 3e-5) 3\nsearch(0, 1) 1\nscore(0) " + SMALL_LAST);
+        run.check(calls + "clause(0, 0, 0, 3e-5) 1\nclause(0, 0, 0, 3e-5) 2\nclause(0, 0, 0, 1000.0) 3\nsearch(0, 1) 1\nscore(0) "
+            + SMALL_FIRST);
+        run.check(calls + "clause(0, 0, 0, 1000.0) 1\nclause(0, 0, 0, 3e-5) 2\nclause(0, 0, 0, 3e-5) 3\nsearch(0, 1) 1\nscore(0) "
+            + SMALL_LAST);
     }
 
     static void theOrderCanBeSeen(Run run) {
         run.due("whether the two sums differ", "" + (SMALL_FIRST != SMALL_LAST), "true");
     }
 
-    /** Three clauses in each order of coming, which must not matter: the greatest weight stands for the last place once, and once for the first. */
+    /**
+     * Three clauses in each order of coming, which must not matter: the greatest weight stands for the last place once, and once for the
+     * first.
+     */
     private static void eachOrder(Run run, String[] places) {
         StringBuilder codes = new StringBuilder("rule(0, true) true\n");
         for (String place : places) {

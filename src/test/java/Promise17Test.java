@@ -29,7 +29,8 @@ public final class Promise17Test {
     }
 
     static void theLastOf40Ids(Run run) {
-        run.check(Calls.each(0, 40, "rule(0, true) true\nput(2, #) 0\nadd(-1) #") + "flush() 40\nrefresh() 40\nvalue(0, 0, 2) 0\nvalue(0, 39, 2) 39\nvalue(0, 40, 2)" + Calls.GONE);
+        run.check(Calls.each(0, 40, "rule(0, true) true\nput(2, #) 0\nadd(-1) #") + "flush() 40\nrefresh() 40\nvalue(0, 0, 2) 0\n"
+            + "value(0, 39, 2) 39\nvalue(0, 40, 2)" + Calls.GONE);
     }
 
     static void theDraftIsNotThere(Run run) {
@@ -71,18 +72,22 @@ public final class Promise17Test {
     static void aClearanceBelowTheLevelDoesNotOpenTheField(Run run) {
         for (int level = 0; level < 4; level++) {
             for (int clearance = 0; clearance < 4; clearance++) {
-                run.check(ONE + "level(0, 1, " + level + ") 0\nlevel(1, 0, " + clearance + ") 0\n" + SEEN + "value(0, 0, 1)" + (clearance < level ? Calls.VEILED : " 11\n") + "value(0, 0, 0) 10\nvalue(0, 0, 2) 12\n");
+                run.check(ONE + "level(0, 1, " + level + ") 0\nlevel(1, 0, " + clearance + ") 0\n" + SEEN + "value(0, 0, 1)"
+                    + (clearance < level ? Calls.VEILED : " 11\n") + "value(0, 0, 0) 10\nvalue(0, 0, 2) 12\n");
             }
         }
     }
 
     static void whatIsOpenIsOfTheSnapshot(Run run) {
-        run.check(ONE + SEEN + "level(0, 0, 1) 0\nvalue(0, 0, 0) 10\nrefresh() 1\nvalue(0, 0, 0)" + Calls.VEILED + "level(1, 0, 1) 0\nvalue(0, 0, 0)" + Calls.VEILED + "refresh() 1\nvalue(0, 0, 0) 10\n");
+        run.check(ONE + SEEN + "level(0, 0, 1) 0\nvalue(0, 0, 0) 10\nrefresh() 1\nvalue(0, 0, 0)" + Calls.VEILED + "level(1, 0, 1) 0\n"
+            + "value(0, 0, 0)" + Calls.VEILED + "refresh() 1\nvalue(0, 0, 0) 10\n");
     }
 
     /** Arguments are looked at first, and a veiled field is told of just to those who may read the document. */
     static void whichOfSeveralIsThrown(Run run) {
-        run.check(ONE + "level(0, 0, 3) 0\n" + SEEN + "value(8, 1, 0)" + Calls.WRONG + "value(0, 1, 3)" + Calls.WRONG + "value(1, 0, 3)" + Calls.WRONG
-            + "value(0, 1, 0)" + Calls.GONE + "value(1, 0, 0)" + Calls.GONE + "value(0, 0, 0)" + Calls.VEILED + "remove(0) -\nrefresh() 0\nvalue(0, 0, 0)" + Calls.GONE);
+        run.check(ONE + "level(0, 0, 3) 0\n" + SEEN + "value(8, 1, 0)" + Calls.WRONG + "value(0, 1, 3)" + Calls.WRONG + "value(1, 0, 3)"
+            + Calls.WRONG
+            + "value(0, 1, 0)" + Calls.GONE + "value(1, 0, 0)" + Calls.GONE + "value(0, 0, 0)" + Calls.VEILED + "remove(0) -\nrefresh() 0\n"
+            + "value(0, 0, 0)" + Calls.GONE);
     }
 }

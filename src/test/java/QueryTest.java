@@ -1,22 +1,10 @@
 /** Promises 12 to 16: clauses, who is found with which score, and the hits. */
 public final class QueryTest {
     public static void main(String[] args) {
-        Run run = new Run();
-        clauses(run);
-        wrongClauses(run);
-        sorts(run);
-        veiledFields(run);
-        weightsOfClauses(run);
-        orderOfAdding(run);
-        floats(run);
-        hitsInOrder(run);
-        moreThanEight(run);
-        wrongSearches(run);
-        hitsStay(run);
-        run.end();
+        Run.all(QueryTest.class);
     }
 
-    private static void clauses(Run run) {
+    static void clauses(Run run) {
         run.check("12, 13: how many", """
             clear() 0
             clause(0, 0, 0, 1.0) 1
@@ -39,7 +27,7 @@ public final class QueryTest {
             """);
     }
 
-    private static void wrongClauses(Run run) {
+    static void wrongClauses(Run run) {
         run.check("12: wrong numbers", """
             clause(-1, 0, 0, 1.0) throws.IllegalArgumentException
             clause(3, 0, 0, 1.0) throws.IllegalArgumentException
@@ -77,7 +65,7 @@ public final class QueryTest {
         refresh() 3
         """;
 
-    private static void sorts(Run run) {
+    static void sorts(Run run) {
         run.check("14: without a SCORES nothing is found, but blocks are looked at", THREE + """
             search(0, 8) 0
             count(4) 1
@@ -204,7 +192,7 @@ public final class QueryTest {
             """);
     }
 
-    private static void veiledFields(Run run) {
+    static void veiledFields(Run run) {
         String veiled = """
             level(1, 1, 2) 0
             level(1, 2, 3) 0
@@ -258,7 +246,7 @@ public final class QueryTest {
             """);
     }
 
-    private static void weightsOfClauses(Run run) {
+    static void weightsOfClauses(Run run) {
         run.check("14, 16: a weight of 0 finds, and MUST has none", THREE + """
             clause(0, 2, 0, 0.0) 1
             clause(1, 1, 0, 5.0) 2
@@ -281,7 +269,7 @@ public final class QueryTest {
             """);
     }
 
-    private static void orderOfAdding(Run run) {
+    static void orderOfAdding(Run run) {
         String wide = """
             rule(0, true) true
             weigh(0, 0, 16.0) 255
@@ -340,7 +328,7 @@ public final class QueryTest {
             """);
     }
 
-    private static void floats(Run run) {
+    static void floats(Run run) {
         run.check("16: weight, product and sum are floats", """
             rule(0, true) true
             weigh(0, 0, 0.1875) 3
@@ -357,7 +345,7 @@ public final class QueryTest {
             """);
     }
 
-    private static void hitsInOrder(Run run) {
+    static void hitsInOrder(Run run) {
         String five = "";
         double[] weights = {2.0, 3.0, 2.0, 3.0, 1.0};
         for (int id = 0; id < weights.length; id++) {
@@ -401,10 +389,11 @@ public final class QueryTest {
             """);
     }
 
-    private static void moreThanEight(Run run) {
+    static void moreThanEight(Run run) {
         StringBuilder ten = new StringBuilder();
         for (int id = 0; id < 10; id++) {
-            ten.append("rule(0, true) true\nweigh(0, 0, ").append(id + 1).append(") ").append(16 * id + 16).append("\nadd(-1) ").append(id).append('\n');
+            ten.append("rule(0, true) true\nweigh(0, 0, ").append(id + 1).append(") ").append(16 * id + 16).append("\n"
+                + "add(-1) ").append(id).append('\n');
         }
         run.check("14: no more than 8", ten + """
             flush() 10
@@ -419,7 +408,7 @@ public final class QueryTest {
             """);
     }
 
-    private static void wrongSearches(Run run) {
+    static void wrongSearches(Run run) {
         run.check("14: wrong numbers, and the latest search stays", THREE + """
             clause(0, 0, 0, 1.0) 1
             search(0, 1) 1
@@ -439,7 +428,7 @@ public final class QueryTest {
             """);
     }
 
-    private static void hitsStay(Run run) {
+    static void hitsStay(Run run) {
         run.check("15, 16: hits are of the latest search, whatever comes behind it", THREE + """
             clause(0, 0, 0, 1.0) 1
             search(0, 8) 2

@@ -1,17 +1,10 @@
 /** Promises 1 to 3, and the tokens of promise 18. */
 public final class RightsTest {
     public static void main(String[] args) {
-        Run run = new Run();
-        newObject(run);
-        members(run);
-        wrongMembers(run);
-        closure(run);
-        levels(run);
-        wrongLevels(run);
-        run.end();
+        Run.all(RightsTest.class);
     }
 
-    private static void newObject(Run run) {
+    static void newObject(Run run) {
         for (int what = 0; what <= 8; what++) {
             run.check("1: nothing is there", "count(" + what + ") 0");
         }
@@ -48,7 +41,7 @@ public final class RightsTest {
             """);
     }
 
-    private static void members(Run run) {
+    static void members(Run run) {
         run.check("2: whether it changes something", """
             member(0, 8, false) false
             member(0, 8, true) true
@@ -79,7 +72,7 @@ public final class RightsTest {
             """);
     }
 
-    private static void wrongMembers(Run run) {
+    static void wrongMembers(Run run) {
         run.check("2: wrong numbers", """
             member(-1, 8, true) throws.IllegalArgumentException
             member(16, 8, true) throws.IllegalArgumentException
@@ -97,7 +90,7 @@ public final class RightsTest {
             """);
     }
 
-    private static void closure(Run run) {
+    static void closure(Run run) {
         run.check("18: a chain through all groups, upwards and downwards", """
             member(0, 15, true) true
             member(15, 14, true) true
@@ -126,7 +119,7 @@ public final class RightsTest {
             """);
     }
 
-    private static void levels(Run run) {
+    static void levels(Run run) {
         run.check("3: what it was", """
             level(0, 0, 3) 0
             level(0, 0, 1) 3
@@ -142,7 +135,7 @@ public final class RightsTest {
             """);
     }
 
-    private static void wrongLevels(Run run) {
+    static void wrongLevels(Run run) {
         run.check("3: wrong numbers", """
             level(-1, 0, 1) throws.IllegalArgumentException
             level(2, 0, 1) throws.IllegalArgumentException

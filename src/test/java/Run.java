@@ -2,7 +2,9 @@ import java.lang.reflect.InvocationTargetException;
 import java.lang.reflect.Method;
 import java.util.Arrays;
 
-/** Runs of calls that are written as text, a call and its answer a line: "weigh(0, 1, 2.5) 40", "remove(9) throws.NoSuchElementException". */
+/**
+ * Runs of calls that are written as text, a call and its answer a line: "weigh(0, 1, 2.5) 40", "remove(9) throws.NoSuchElementException".
+ */
 final class Run {
     static final String NOTHING = "-";
     private static final int MOST_CALLS = 512;

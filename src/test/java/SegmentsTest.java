@@ -3,14 +3,7 @@ public final class SegmentsTest {
     private static final String READABLE = "rule(0, true) true\nweigh(0, 0, 1.0) 16\n";
 
     public static void main(String[] args) {
-        Run run = new Run();
-        removing(run);
-        flushing(run);
-        sixSegments(run);
-        merging(run);
-        blocksOfMerged(run);
-        refreshing(run);
-        run.end();
+        Run.all(SegmentsTest.class);
     }
 
     private static String documents(int from, int end) {
@@ -21,7 +14,7 @@ public final class SegmentsTest {
         return calls.toString();
     }
 
-    private static void removing(Run run) {
+    static void removing(Run run) {
         run.check("8: out of the buffer and out of segments", documents(0, 4) + """
             remove(-1) throws.NoSuchElementException
             remove(4) throws.NoSuchElementException
@@ -56,7 +49,7 @@ public final class SegmentsTest {
             """);
     }
 
-    private static void flushing(Run run) {
+    static void flushing(Run run) {
         run.check("9: how many, and none of an empty buffer", documents(0, 2) + """
             count(1) 2
             flush() 2
@@ -75,7 +68,7 @@ public final class SegmentsTest {
             """);
     }
 
-    private static void sixSegments(Run run) {
+    static void sixSegments(Run run) {
         StringBuilder calls = new StringBuilder();
         for (int id = 0; id < 6; id++) {
             calls.append(documents(id, id + 1)).append("flush() 1\n");
@@ -100,7 +93,7 @@ public final class SegmentsTest {
             """);
     }
 
-    private static void merging(Run run) {
+    static void merging(Run run) {
         run.check("10: none, and one with nothing removed", """
             merge() 0
             count(2) 0
@@ -165,7 +158,7 @@ public final class SegmentsTest {
             """);
     }
 
-    private static void blocksOfMerged(Run run) {
+    static void blocksOfMerged(Run run) {
         run.check("10: removed documents fill blocks till merge", documents(0, 5) + """
             flush() 5
             """ + documents(5, 8) + """
@@ -189,7 +182,7 @@ public final class SegmentsTest {
             """);
     }
 
-    private static void refreshing(Run run) {
+    static void refreshing(Run run) {
         run.check("11: a snapshot stays what it was", documents(0, 3) + """
             clause(0, 0, 0, 1.0) 1
             refresh() 0

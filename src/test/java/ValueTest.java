@@ -1,13 +1,7 @@
 /** Promises 17 and 18: values as a user is told them, and what is counted. */
 public final class ValueTest {
     public static void main(String[] args) {
-        Run run = new Run();
-        wrongNumbers(run);
-        whatIsThere(run);
-        whatIsOpen(run);
-        whichComesFirst(run);
-        counts(run);
-        run.end();
+        Run.all(ValueTest.class);
     }
 
     private static final String ONE = """
@@ -18,7 +12,7 @@ public final class ValueTest {
         add(-1) 0
         """;
 
-    private static void wrongNumbers(Run run) {
+    static void wrongNumbers(Run run) {
         run.check("17: wrong numbers", ONE + """
             flush() 1
             refresh() 1
@@ -40,7 +34,7 @@ public final class ValueTest {
             """);
     }
 
-    private static void whatIsThere(Run run) {
+    static void whatIsThere(Run run) {
         run.check("17: in segments of the snapshot", ONE + """
             value(0, 0, 0) throws.NoSuchElementException
             refresh() 0
@@ -83,7 +77,7 @@ public final class ValueTest {
             """);
     }
 
-    private static void whatIsOpen(Run run) {
+    static void whatIsOpen(Run run) {
         run.check("17: a clearance that is not below the level", ONE + """
             flush() 1
             refresh() 1
@@ -106,7 +100,7 @@ public final class ValueTest {
             """);
     }
 
-    private static void whichComesFirst(Run run) {
+    static void whichComesFirst(Run run) {
         run.check("17: what is not there or not to be read is not told to be veiled", ONE + """
             flush() 1
             level(0, 0, 1) 0
@@ -121,7 +115,7 @@ public final class ValueTest {
             """);
     }
 
-    private static void counts(Run run) {
+    static void counts(Run run) {
         run.check("18: for others", """
             count(-1) throws.IllegalArgumentException
             count(9) throws.IllegalArgumentException
