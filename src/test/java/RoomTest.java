@@ -40,31 +40,42 @@ public final class RoomTest {
         run.due("whether 512 calls make next to nothing (" + made + " bytes)", "" + (made < CALLS), "true");
     }
 
-    /** As many calls as are promised, none of which throws: 40 documents in segments that are merged, searched by all users with six clauses. */
+    /**
+     * Each call of the face, none of which throws: 40 documents in segments that are merged, searched by all users with up to six clauses.
+     */
     private static void makeCalls(VeilSearch search) {
-        for (int term = 0; term < 6; term++) {
-            search.clause(0, 5 - term, 0, 1.5);
-        }
         for (int id = 0; id < 40; id++) {
             search.rule(id % 8, true);
-            search.weigh(0, id % 6, id);
+            search.weigh(0, id % 6, 1 + id);
             search.put(1, id);
-            search.add(id - 1);
+            search.add(-1);
             if (id % 8 == 7) {
                 search.flush();
             }
         }
-        int calls = 6 + 40 * 4 + 5;
         search.remove(39);
         search.merge();
-        search.level(0, 1, 0);
-        calls += 3;
-        for (; calls + 4 <= CALLS; calls += 4) {
-            search.member(calls / 4 % 8, 8 + calls % 8, true);
+        int calls = 40 * 4 + 5 + 2;
+        for (int round = 0; calls + 11 <= CALLS; round++) {
+            search.member(round % 8, 8 + round % 7, true);
+            search.level(0, 1, round % 4);
             search.refresh();
-            search.search(calls / 4 % 8, 1 + calls % 8);
-            search.count(10 + calls % 8);
+            if (search.clause(0, 5 - round % 6, 0, 1.5) == 6) {
+                search.clear();
+            }
+            calls += 5 + searchAs(search, round % 8, 1 + round % 8);
         }
+    }
+
+    /** How many calls were made. */
+    private static int searchAs(VeilSearch search, int user, int most) {
+        search.count(20 + user);
+        if (search.search(user, most) == 0) {
+            return 2;
+        }
+        search.score(0);
+        search.value(user, search.hit(0), 0);
+        return 5;
     }
 
     private static void holdsLittle(Run run, VeilSearch search) throws Exception {

@@ -1,3 +1,7 @@
+import java.util.ArrayList;
+import java.util.List;
+import java.util.TreeSet;
+
 /** The document's "Terms", sentence by sentence; each method quotes its sentence, and the numbers of the promises that show it. */
 public final class TermsTest {
     private static final int NOBODY = -1;
@@ -61,20 +65,20 @@ public final class TermsTest {
         }
     }
 
-    /** "A DOCUMENT has for each FIELD a VALUE (an int)": each of 40 documents its own three (5, 17). */
+    /** "A DOCUMENT has for each FIELD a VALUE (an int) and, ..": each of 40 documents its own three (5, 17). */
     static void eachDocumentHasAValueForEachField(Run run) {
         run.check(Calls.each(0, 40, "rule(0, true) true\nput(0, 1#) 0\nput(1, 2#) 0\nput(2, -3#) 0\nadd(-1) #") + "flush() 40\n"
             + "refresh() 40\n" + Calls.each(0, 40, "value(0, #, 0) 1#\nvalue(0, #, 1) 2#\nvalue(0, #, 2) -3#"));
     }
 
-    /** "and, for TERMS 0 to 7, a CODE (0 to 255; 0 is none)": each document its own 24 (4, 14, 16). */
+    /** "for TERMS 0 to 7, a CODE (0 to 255; 0 is none)": each document its own 24 (4, 14, 16). */
     static void eachDocumentHasACodeForEachTermOfEachField(Run run) {
         StringBuilder calls = new StringBuilder();
         for (int id = 0; id < 4; id++) {
             calls.append("rule(").append(id).append(", true) true\n");
             for (int place = 0; place < 24; place++) {
                 int code = codeAt(id, place);
-                calls.append("weigh(").append(place / 8).append(", ").append(place % 8).append(", ").append(code / 16.0).append(") ").append(code).append('\n');
+                calls.append("weigh(" + place / 8 + ", " + place % 8 + ", " + code / 16.0 + ") " + code + "\n");
             }
             calls.append("add(-1) ").append(id).append('\n');
         }
@@ -131,8 +135,8 @@ public final class TermsTest {
     }
 
     /**
-      * "A USER MAY READ a DOCUMENT, if none of its TOKENS is DENIED by it, its PARENT, the PARENT of that, and so on, and one is ALLOWED by
-      * the first of these that ALLOWS any." (6, 7, 14, 17)
+     * "A USER MAY READ a DOCUMENT, if none of its TOKENS is DENIED by it, its PARENT, the PARENT of that, and so on, and one is ALLOWED by
+     * the first of these that ALLOWS any." (6, 7, 14, 17)
      * User 0 is in group 8; each of three documents in a line allows and denies the user, the group, another user or nobody.
      */
     static void whoMayRead(Run run) {
@@ -240,9 +244,34 @@ public final class TermsTest {
             + Calls.each(0, 3, "clause(#, 0, 0, 0.0) 1\nclear() 1") + "clause(3, 0, 0, 0.0)" + Calls.WRONG);
     }
 
+    /** "For a USER, by THE SNAPSHOT: .." (11, 14) */
+    static void aQueryIsAnsweredForAUserByTheSnapshot(Run run) {
+        String one = "rule(8, true) true\nweigh(1, 0, 1.0) 16\nadd(-1) 0\nmember(0, 8, true) true\nlevel(0, 1, 1) 0\nlevel(1, 0, 1) 0\n"
+            + "flush() 1\n"
+            + "refresh() 1\nclause(0, 0, 1, 1.0) 1\n";
+        run.check(one + "search(0, 8) 1\nsearch(1, 8) 0\nmember(1, 8, true) true\nsearch(1, 8) 0\nrefresh() 1\nsearch(1, 8) 0\n"
+            + "level(1, 1, 3) 0\n"
+            + "search(1, 8) 0\nrefresh() 1\nsearch(1, 8) 1\nsearch(0, 8) 1\nlevel(0, 1, 2) 1\nsearch(0, 8) 1\nrefresh() 1\nsearch(0, 8) 0\n"
+            + "search(1, 8) 1\n");
+    }
+
+    /** "A DOCUMENT is FOUND if it is in a SEGMENT, not removed, MAY be READ, .." (8, 9, 14, 18) */
+    static void whichDocumentsCanBeFound(Run run) {
+        for (int row = 0; row < 8; row++) {
+            boolean flushed = (row & 1) != 0;
+            boolean removed = (row & 2) != 0;
+            boolean allowed = (row & 4) != 0;
+            int living = flushed && !removed ? 1 : 0;
+            int found = allowed ? living : 0;
+            run.check("rule(" + (allowed ? 0 : 1) + ", true) true\nweigh(0, 0, 1.0) 16\nadd(-1) 0\n" + (flushed ? "flush() 1\n" : "")
+                + (removed ? "remove(0) -\n" : "") + "refresh() " + living + "\nclause(0, 0, 0, 1.0) 1\nsearch(0, 8) " + found
+                + "\ncount(4) " + (flushed ? 1 : 0) + "\ncount(5) " + found + "\n");
+        }
+    }
+
     /**
-      * "CLAUSES of FIELDS that are not OPEN are left out, but with a MUST of these nothing is found. A DOCUMENT is FOUND if it .. has a
-      * CODE above 0 for each MUST and none for any NOT, and one for some SCORES." (14, 18)
+     * "CLAUSES of FIELDS that are not OPEN are left out, but with a MUST of these nothing is found. A DOCUMENT is FOUND if it .. has a
+     * CODE above 0 for each MUST and none for any NOT, and one for some SCORES." (14, 18)
      * Two clauses of each sort, of an open and of a veiled field, on documents with and without their codes.
      */
     static void whatIsFound(Run run) {
@@ -267,17 +296,29 @@ public final class TermsTest {
      * float of it + the float of (float) weight * (c / 16)." (16)
      */
     static void aScoreIsAddedUpInFloats(Run run) {
-        double[] weights = {0.1, 333.3, 0.7, 1e-3, 17.77, 999.9};
-        int[] codes = {3, 255, 77, 1, 129, 16};
-        float sum = 0;
-        StringBuilder calls = new StringBuilder("rule(0, true) true\n");
-        StringBuilder clauses = new StringBuilder();
-        for (int term = 0; term < 6; term++) {
-            calls.append("weigh(").append(term % 3).append(", ").append(term).append(", ").append(codes[term] / 16.0).append(") ").append(codes[term]).append('\n');
-            clauses.append("clause(0, ").append(5 - term).append(", ").append((5 - term) % 3).append(", ").append(weights[5 - term]).append(") ").append(term + 1).append('\n');
-            sum = sum + (float) weights[term] * (codes[term] / 16f);
+        int[][] places = {{2, 0}, {2, 1}, {4, 0}, {4, 0}, {4, 0}, {7, 2}};
+        double[] weights = {0.1, 0.0333, 1000.0, 5.17e-5, 3.33e-5, 999.9};
+        String document = "rule(0, true) true\nweigh(0, 2, 0.1875) 3\nweigh(1, 2, 15.9375) 255\nweigh(0, 4, 4.8125) 77\n"
+            + "weigh(2, 7, 0.0625) 1\n"
+            + "add(-1) 0\nflush() 1\nrefresh() 1\n";
+        float[] worths = {3 / 16f, 255 / 16f, 77 / 16f, 77 / 16f, 77 / 16f, 1 / 16f};
+        TreeSet<Float> sums = new TreeSet<>();
+        for (int[] order : ordersOfSix()) {
+            StringBuilder clauses = new StringBuilder();
+            int[] added = order.clone();
+            for (int i = 0; i < 6; i++) {
+                int[] place = places[order[i]];
+                clauses.append("clause(0, " + place[0] + ", " + place[1] + ", " + weights[order[i]] + ") " + (i + 1) + "\n");
+            }
+            sortByPlace(added, places);
+            float sum = 0;
+            for (int i : added) {
+                sum = sum + (float) weights[i] * worths[i];
+            }
+            sums.add(sum);
+            run.check(document + clauses + "search(0, 1) 1\nscore(0) " + (double) sum);
         }
-        run.check(calls + "add(-1) 0\nflush() 1\nrefresh() 1\n" + clauses + "search(0, 1) 1\nscore(0) " + (double) sum);
+        run.due("whether it can be seen how they came", "" + (sums.size() > 1), "true");
     }
 
     /** "The first k by falling SCORES, then rising IDS, are the HITS." (14, 15, 16) */
@@ -335,6 +376,19 @@ public final class TermsTest {
             + "flush() 5\nrefresh() 5\nclause(0, 0, 0, 1.0) 1\n"
             + "search(0, 2) 2\nhit(0) 3\nhit(1) 4\ncount(4) 2\ncount(5) 5\nhit(2)" + Calls.NO_HIT + "search(0, 1) 1\nhit(0) 3\ncount(4) 1\n"
             + "count(5) 4\n");
+        run.check(Calls.document(0, 1) + Calls.document(1, 4) + Calls.document(2, 4) + Calls.document(3, 4) + "flush() 4\nrefresh() 4\n"
+            + "clause(0, 0, 0, 1.0) 1\nsearch(0, 1) 1\nhit(0) 1\nsearch(0, 2) 2\nhit(0) 1\nhit(1) 2\ncount(5) 4\n");
+    }
+
+    /** "FILTERS: which DOCUMENTS of a SEGMENT a USER MAY READ.": one that is used lets the same through as when it was made (14, 18). */
+    static void aFilterTellsWhichDocumentsAUserMayRead(Run run) {
+        String thirteen = Calls.each(0, 8, "rule(#, true) true\nweigh(0, 0, 1.0) 16\nadd(-1) #") + "flush() 8\n"
+            + Calls.each(8, 13, "rule(0, true) true\nrule(1, true) true\nweigh(0, 0, 1.0) 16\nadd(-1) #") + "flush() 5\nremove(12) -\n"
+            + "refresh() 12\n"
+            + "clause(0, 0, 0, 1.0) 1\n";
+        String both = Calls.each(0, 2, "search(#, 8) 5\nhit(0) #\nhit(1) 8\nhit(4) 11\ncount(5) 5");
+        run.check(thirteen + both + "count(6) 4\ncount(7) 0\n" + both + "count(6) 4\ncount(7) 4\nsearch(2, 8) 1\nhit(0) 2\ncount(6) 6\n"
+            + "count(8) 5\n" + both);
     }
 
     /**
@@ -370,6 +424,37 @@ public final class TermsTest {
         run.check(kept + "member(15, 8, true) true\ncount(8) 4\nrefresh() 2\ncount(8) 0\n");
         run.check(kept + "level(0, 2, 1) 0\ncount(8) 4\nrefresh() 2\ncount(8) 0\n");
         run.check(kept + "level(1, 7, 1) 0\ncount(8) 4\nrefresh() 2\ncount(8) 0\n");
+    }
+
+    /** All orders of the numbers 0 to 5. */
+    private static List<int[]> ordersOfSix() {
+        List<int[]> orders = new ArrayList<>();
+        for (int row = 0; row < 720; row++) {
+            List<Integer> left = new ArrayList<>(List.of(0, 1, 2, 3, 4, 5));
+            int[] order = new int[6];
+            int rest = row;
+            for (int i = 0; i < 6; i++) {
+                order[i] = left.remove(rest % left.size());
+                rest /= 6 - i;
+            }
+            orders.add(order);
+        }
+        return orders;
+    }
+
+    /** By rising terms, then fields; what has the same of both stays in its order. */
+    private static void sortByPlace(int[] order, int[][] places) {
+        for (int end = order.length - 1; end > 0; end--) {
+            for (int i = 0; i < end; i++) {
+                int[] first = places[order[i]];
+                int[] second = places[order[i + 1]];
+                if (first[0] > second[0] || first[0] == second[0] && first[1] > second[1]) {
+                    int swapped = order[i];
+                    order[i] = order[i + 1];
+                    order[i + 1] = swapped;
+                }
+            }
+        }
     }
 
     private static int blankRows(String calls) {
